@@ -22,6 +22,23 @@ public final class PromiseTests {
         typeAll(desk, text);
         CHECKS.holds("the text can be read: " + text, desk.read() > 0);
         desk.clearText();
+        return disturbed(desk);
+    }
+
+    /** The last thing that it did is a change that was taken back: no later change may begin with what that left. */
+    private static PermanentDesk disturbed(PermanentDesk desk) {
+        desk.clear(1 + desk.total(0) % 7);
+        desk.undo();
+        return desk;
+    }
+
+    /** The same calls for the slow desk, which then has the same matrix. */
+    private static SlowDesk slowDeskOf(String text) {
+        SlowDesk desk = new SlowDesk();
+        for (int i = 0; i < text.length(); i++) {
+            desk.type(text.charAt(i));
+        }
+        desk.read();
         return desk;
     }
 
@@ -96,6 +113,7 @@ public final class PromiseTests {
         due("set(0, 2, 20)", desk.set(0, 2, 20), 0);
         due("set(0, 2, -20)", desk.set(0, 2, -20), 20);
         due("set(0, 2, -20)", desk.set(0, 2, -20), NONE);
+        disturbed(desk);
         due("set(2, 0, 7)", desk.set(2, 0, 7), 0);
         due("set(2, 0, 0)", desk.set(2, 0, 0), 7);
         dueMatrix("set", desk, "0,0,-20/0,0,0/0,0,0");
@@ -116,7 +134,7 @@ public final class PromiseTests {
     private static void promise4SwapRows() {
         PermanentDesk desk = deskOf("1,2,3/1,5,3/0,0,0");
         due("swapRows(0, 1)", desk.swapRows(0, 1), 2);
-        dueMatrix("swapRows(0, 1)", desk, "1,5,3/1,2,3/0,0,0");
+        dueMatrix("swapRows(0, 1)", disturbed(desk), "1,5,3/1,2,3/0,0,0");
         due("swapRows(2, 0)", desk.swapRows(2, 0), 6);
         dueMatrix("swapRows(2, 0)", desk, "0,0,0/1,2,3/1,5,3");
         due("swapRows(1, 1)", desk.swapRows(1, 1), NONE);
@@ -207,6 +225,14 @@ public final class PromiseTests {
         due("records", desk.total(7), 3);
         due("undo()", desk.undo(), 2);
         dueMatrix("undone add", desk, "20,0,0/0,0,-19/0,6,0");
+        for (int row = 0; row < 7; row++) {
+            PermanentDesk high = new PermanentDesk();
+            high.clear(7);
+            high.set(row, 6 - row, 20);
+            due("20 in the row " + row, high.add(6543210), NOT_POSSIBLE);
+            high.set(row, 6 - row, 19);
+            due("19 in the row " + row, high.add(6543210), 26);
+        }
         PermanentDesk one = deskOf("19");
         due("one row: add(0)", one.add(0), 20);
         due("one row: add(0)", one.add(0), NOT_POSSIBLE);
@@ -295,6 +321,15 @@ public final class PromiseTests {
         due("undo()", again.undo(), 0);
         dueMatrix("undone read", again, "0,0,0/0,0,0/0,0,0");
         dueFullText();
+        PermanentDesk many = new PermanentDesk();
+        for (String text : good) {
+            many.clearText();
+            typeAll(many, text);
+            many.read();
+            dueMatrix("one text behind another", many, text);
+            typeAll(many, "x");
+            due("a fault behind another text", many.read(), -100 - text.length());
+        }
     }
 
     /** The fault is the length of the text less so many. */
@@ -420,12 +455,30 @@ public final class PromiseTests {
         dueTotals("1,1/2,2", 2, 4, 6, 2, 1, 0, 0, 1, 0);
         dueTotals("0,1,0/0,0,1/1,0,0", 3, 3, 3, 1, 0, 0, 1, 1, 0);
         dueTotals("-7", 1, 1, -7, -7, -7, 1, 1, 1, 0);
+        dueTotals("7", 1, 1, 7, 7, 7, 1, 1, 1, 0);
+        extremesAtEachPlace();
         PermanentDesk desk = new PermanentDesk();
         for (int what : new int[] {-1, 9, 100, Integer.MIN_VALUE, Integer.MAX_VALUE}) {
             due("total(" + what + ")", desk.total(what), OUT_OF_RANGE);
         }
         typeAll(desk, "abc");
         due("total(8)", desk.total(8), 3);
+    }
+
+    private static void extremesAtEachPlace() {
+        for (int cell = 0; cell < 9; cell++) {
+            PermanentDesk desk = new PermanentDesk();
+            desk.set(cell / 3, cell % 3, 1);
+            due("total(3), cell " + cell, desk.total(3), 1);
+            due("total(4), cell " + cell, desk.total(4), 0);
+            desk.set(cell / 3, cell % 3, -1);
+            due("total(3), cell " + cell, desk.total(3), 0);
+            due("total(4), cell " + cell, desk.total(4), -1);
+            due("total(1), cell " + cell, desk.total(1), 1);
+            due("total(2), cell " + cell, desk.total(2), -1);
+            due("total(5), cell " + cell, desk.total(5), cell % 4 == 0 ? 1 : 0);
+            due("total(6), cell " + cell, desk.total(6), 0);
+        }
     }
 
     private static void promise17LineSum() {
@@ -640,6 +693,9 @@ public final class PromiseTests {
     private static void promise28Best() {
         dueBest("0,0,0/0,0,0/0,0,0", 0, 12);
         dueBest("-7", -7, 0);
+        PermanentDesk counted = deskOf("1,2/3,4");
+        due("wholeDiagonals()", counted.wholeDiagonals(), 2);
+        due("best(true) behind wholeDiagonals()", counted.best(true), 5);
         dueBest("1,2/3,4", 5, 1);
         dueBest("1,5/5,4", 10, 10);
         dueBest("-20,-20/-20,-20", -40, 1);
@@ -693,6 +749,8 @@ public final class PromiseTests {
         dueScalingErrors(deskOf("1,1,1/1,1,1/1,1,-1"), LONG_NOT_POSSIBLE);
         dueScalingErrors(deskOf("1,1,1/1,1,1/0,0,0"), LONG_NOT_POSSIBLE);
         dueScalingErrors(deskOf("1,1,0/1,1,0/1,1,0"), LONG_NOT_POSSIBLE);
+        dueScalingErrors(deskOf("0,0,0/1,1,1/1,1,1"), LONG_NOT_POSSIBLE);
+        dueScalingErrors(deskOf("0,1,1/0,1,1/0,1,1"), LONG_NOT_POSSIBLE);
         dueScalingErrors(deskOf("2,1,1/1,-1,1/1,1,1"), LONG_NOT_POSSIBLE);
     }
 
@@ -715,6 +773,26 @@ public final class PromiseTests {
         CHECKS.holds("a tiny entry", tiny > 0.0 && tiny < 1e-70);
         due("the matrix stays", desk.entry(1, 1), 4);
         due("nothing is recorded", desk.total(7), 1);
+        for (String text : SCALED) {
+            dueScaledAsSlow(text);
+        }
+    }
+
+    /** Sums that are small, great, far from each other, and entries that are. */
+    private static final String[] SCALED = {"1,20,20/0,20,20/0,20,20", "1,1,1/1,1,0/1,0,1", "20,0,0/20,20,0/1,20,20",
+        "1,1/0,1", "3,1,4,1/5,9,2,6/5,3,5,8/9,7,9,3", "20,20,20,20,20/1,0,0,0,0/1,0,0,0,0/1,0,0,0,0/20,0,0,0,0"};
+
+    private static void dueScaledAsSlow(String text) {
+        PermanentDesk desk = deskOf(text);
+        SlowDesk slow = slowDeskOf(text);
+        for (int sweeps : new int[] {0, 1, 2, 7, 49, 50}) {
+            for (int cell = 0; cell < 9; cell++) {
+                due("scaledBits of " + text, desk.scaledBits(cell / 3, cell % 3, sweeps),
+                    slow.scaledBits(cell / 3, cell % 3, sweeps));
+            }
+            due("gapBits of " + text, desk.gapBits(sweeps), slow.gapBits(sweeps));
+            due("boundBits of " + text, desk.boundBits(sweeps), slow.boundBits(sweeps));
+        }
     }
 
     /** Ones in the first row and the first column alone. */
@@ -736,6 +814,9 @@ public final class PromiseTests {
         CHECKS.dueBits("one sweep", desk.gapBits(1), Math.max(first, second));
         CHECKS.dueBits("no gap", deskOf("0,1/1,0").gapBits(0), 0.0);
         CHECKS.dueBits("a first row that is far off", deskOf("9,0/0,1").gapBits(0), 8.0);
+        double third = 1.0 / 3.0, half = 1.0 / 2.0;
+        CHECKS.dueBits("a greatest gap above 1", deskOf("1,1,1/1,1,0/1,0,1").gapBits(1),
+            third / (third + half + half) + third / (third + half) + third / (third + half) - 1.0);
         CHECKS.dueBits("a row below 1", deskOf("1,1,1/1,0,0/1,0,0").gapBits(1),
             Math.abs(1.0 / 3.0 / (1.0 / 3.0 + 1.0 + 1.0) + 1.0 + 1.0 - 1.0));
     }
@@ -754,6 +835,17 @@ public final class PromiseTests {
         CHECKS.dueBits("one row", deskOf("20").boundBits(1), 20.0);
         CHECKS.dueBits("one row", deskOf("20").boundBits(50), 20.0);
         smallBounds();
+        PermanentDesk great = deskOfAll(7, 20);
+        SlowDesk slow = new SlowDesk();
+        slow.clear(7);
+        for (int cell = 0; cell < 49; cell++) {
+            slow.set(cell / 7, cell % 7, 20);
+        }
+        for (int sweeps = 0; sweeps <= 50; sweeps += 10) {
+            due("a great bound", great.boundBits(sweeps), slow.boundBits(sweeps));
+        }
+        double bound = Double.longBitsToDouble(great.boundBits(1));
+        CHECKS.holds("a great bound is near the permanent", bound > 6.45e12 && bound < 6.46e12);
     }
 
     /** The bound of a cross goes by the normal doubles, the ones below them, and 0. */
@@ -796,6 +888,8 @@ public final class PromiseTests {
 
     private static void promises33And34Parts() {
         dueParts("7", 0, 7);
+        dueParts("1", 0, 1);
+        dueParts("0,1/1,0", 10, 1);
         dueParts("1,2/2,1", 1, 1, 10, 2);
         dueParts("0,3/3,0", 10, 3);
         dueParts("3,0,2/2,3,0/0,2,3", 12, 3, 201, 2);
@@ -809,6 +903,12 @@ public final class PromiseTests {
             due("part(0, true) of " + text, desk.part(0, true), NOT_POSSIBLE);
             due("part(-1, false) of " + text, desk.part(-1, false), NOT_POSSIBLE);
         }
+        PermanentDesk fresh = deskOf("0,3/3,0");
+        due("a part ahead of all else", fresh.part(0, true), 3);
+        fresh.swapRows(0, 1);
+        due("a part behind a change", fresh.part(0, false), 1);
+        fresh.add(10);
+        due("parts() behind a change", fresh.parts(), 2);
         PermanentDesk seven = deskOfAll(7, 20);
         due("7 rows: parts()", seven.parts(), 7);
         for (int i = 0; i < 7; i++) {
