@@ -1,0 +1,4 @@
+/** A call of the face. */
+interface Call {
+    long on(PermanentDesk desk);
+}
