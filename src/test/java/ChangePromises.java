@@ -329,8 +329,10 @@ final class ChangePromises extends SentenceGroup {
                 boolean isPossible = Math.abs(entry) * 3 <= 20;
                 int unlike = entry == 0 ? 6 : 7;
                 due(entry + " by " + factor, desk.multiply(3, factor), isPossible ? unlike : NOT_POSSIBLE);
-                due("the entry", desk.entry(3, column), isPossible ? entry * factor : entry);
-                due("another entry", desk.entry(3, 6 - column), column == 3 ? desk.entry(3, 3) : isPossible ? factor : 1);
+                int by = isPossible ? factor : 1;
+                due("the entry", desk.entry(3, column), entry * by);
+                due("the next entry", desk.entry(3, (column + 1) % 7), by);
+                due("the row below it", desk.lineSum(4, false), 7);
             }
         }
         due("to 20", Desks.of("10").multiply(0, 2), 1);

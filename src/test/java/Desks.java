@@ -27,7 +27,7 @@ final class Desks {
                 desk.set(r, c, entry);
             }
         }
-        return desk;
+        return disturbed(desk);
     }
 
     /** A matrix of zeros with ones on a diagonal. */
@@ -35,7 +35,7 @@ final class Desks {
         PermanentDesk desk = new PermanentDesk();
         desk.clear(rows);
         desk.add(diagonal);
-        return desk;
+        return disturbed(desk);
     }
 
     /** Ones in the first row and the first column alone, so that there is no whole diagonal from 3 rows on. */
@@ -46,7 +46,7 @@ final class Desks {
             desk.set(0, i, 1);
             desk.set(i, 0, 1);
         }
-        return desk;
+        return disturbed(desk);
     }
 
     static SlowDesk slowOf(String matrix) {

@@ -98,8 +98,10 @@ final class DiagonalPromises extends SentenceGroup {
 
     // ---- rooks
 
-    @Says(at = "Promise 26", words = {"Returns a rook number.",
-        "Returns in how many ways k entries that are not 0 can be chosen so that no two are in the same row or column;"})
+    @Says(at = "Promise 26", words = {
+        "Returns a rook number.",
+        "Returns in how many ways k entries that are not 0 can be chosen so that no two are in the same row or"
+            + " column;"})
     void rooksCountsWays() {
         PermanentDesk desk = Desks.of("5,-3,0/0,2,2/0,0,0");
         due("rooks(0)", desk.rooks(0), 1);
@@ -131,8 +133,10 @@ final class DiagonalPromises extends SentenceGroup {
 
     // ---- tooFew
 
-    @Says(at = "Promise 27", words = {"Finds the smallest set of rows whose entries that are not 0 are in fewer columns than"
-        + " the set has rows,", "Returns the set;"})
+    @Says(at = "Promise 27", words = {
+        "Finds the smallest set of rows whose entries that are not 0 are in fewer columns than the set has"
+            + " rows,",
+        "Returns the set;"})
     void tooFewFindsTheSmallestSet() {
         due("a row of zeros", Desks.of("1,1,1/1,1,1/0,0,0").tooFew(), 4);
         due("two rows in one column", Desks.of("1,0,0/1,1,1/-1,0,0").tooFew(), 5);
@@ -210,7 +214,8 @@ final class DiagonalPromises extends SentenceGroup {
         due("7 rows", Desks.ofAll(7, 20).best(false), 123456);
     }
 
-    @Says(at = "Promise 28", words = {"`isSum`: whether the sum is returned, otherwise the diagonal",
+    @Says(at = "Promise 28", words = {
+        "`isSum`: whether the sum is returned, otherwise the diagonal",
         "Returns the sum or the diagonal."})
     void bestTellsTheSumOrTheDiagonal() {
         for (int rows = 1; rows <= 7; rows++) {

@@ -134,12 +134,13 @@ final class ErrorTerms extends SentenceGroup {
         "boundBits " + LONG_NOT_POSSIBLE, "part " + UNKNOWN, "part " + NOT_POSSIBLE, "parts " + NOT_POSSIBLE};
 
     private static boolean isRefusal(NamedCall call, long answer) {
-        return call.method().equals("read") && answer <= -100 || answer == UNKNOWN || answer == OUT_OF_RANGE || answer == FULL
-            || answer == NOT_POSSIBLE || answer == NONE || answer == LONG_UNKNOWN || answer == LONG_OUT_OF_RANGE || answer == LONG_NOT_POSSIBLE;
+        boolean isFault = call.method().equals("read") && answer <= -100;
+        boolean isInt = answer <= UNKNOWN && answer >= NONE;
+        boolean isLong = answer <= LONG_UNKNOWN && answer >= LONG_NOT_POSSIBLE;
+        return isFault || isInt || isLong;
     }
 
-    @Says(at = "Not promised",
-        words = "Nothing is promised beyond the answers and state changes described above")
+    @Says(at = "Not promised", words = "Nothing is promised beyond the answers and state changes described above")
     void questionsChangeNothing() {
         for (Supplier<PermanentDesk> state : States.all()) {
             String before = Desks.portrait(state.get());
@@ -194,8 +195,9 @@ final class ErrorTerms extends SentenceGroup {
         due("no whole diagonal", new PermanentDesk().wholeDiagonal(0), -2000000005);
     }
 
-    @Says(at = "ERRORS", words = {"`LONG_UNKNOWN = -9000000000000000001L, LONG_OUT_OF_RANGE = -9000000000000000002L,"
-        + " LONG_NOT_POSSIBLE = -9000000000000000004L`:",
+    @Says(at = "ERRORS", words = {
+        "`LONG_UNKNOWN = -9000000000000000001L, LONG_OUT_OF_RANGE = -9000000000000000002L, LONG_NOT_POSSIBLE ="
+            + " -9000000000000000004L`:",
         "As UNKNOWN, OUT_OF_RANGE and NOT_POSSIBLE, for methods that return a long."})
     void longErrors() {
         due("LONG_UNKNOWN", PermanentDesk.LONG_UNKNOWN, -9000000000000000001L);

@@ -28,9 +28,9 @@ public final class FaceTests {
         "int UNKNOWN", "int OUT_OF_RANGE", "int FULL", "int NOT_POSSIBLE", "int NONE",
         "long LONG_UNKNOWN", "long LONG_OUT_OF_RANGE", "long LONG_NOT_POSSIBLE"};
     private static final String[] NOT_IN_SOURCE = {
-        "package ", "import ", "->", "::", "try {", "catch (", "throw ", "finally", "synchronized", "assert", "static {",
-        "Double.", "Float.", "Object", "Thread", "System.out", "System.err", "System.nano", "System.current", "Random",
-        "toString", "hashCode", "equals(", "protected", "instanceof", "Exact("};
+        "package ", "import ", "->", "::", "try {", "catch (", "throw ", "finally", "synchronized", "assert",
+        "static {", "Double.", "Float.", "Object", "Thread", "System.out", "System.err", "System.nano",
+        "System.current", "Random", "toString", "hashCode", "equals(", "protected", "instanceof", "Exact("};
 
     private static String signature(Method method) {
         StringBuilder text = new StringBuilder();
@@ -62,7 +62,8 @@ public final class FaceTests {
             checks.due(field + " has modifiers", field.getModifiers(),
                 Modifier.PUBLIC | Modifier.STATIC | Modifier.FINAL);
         }
-        checks.holds("the methods are the document's: " + methods, methods.equals(new TreeSet<>(Arrays.asList(METHODS))));
+        checks.holds("the methods are the document's: " + methods,
+            methods.equals(new TreeSet<>(Arrays.asList(METHODS))));
         checks.holds("the constants are the document's: " + constants,
             constants.equals(new TreeSet<>(Arrays.asList(CONSTANTS))));
         Constructor<?>[] constructors = desk.getDeclaredConstructors();

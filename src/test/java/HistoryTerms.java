@@ -39,6 +39,22 @@ final class HistoryTerms extends SentenceGroup {
         dueMatrix("restore that is taken back", kept, Desks.textOfAll(4, 0));
     }
 
+    @Says(at = "HISTORY", words = "described as a change,")
+    void whatIsNoChangeRecordsNothing() {
+        PermanentDesk desk = Desks.of("1,2/3,4");
+        desk.set(0, 0, 9);
+        due("type", desk.type('7'), 1);
+        due("keep", desk.keep(), 2);
+        due("clearText", desk.clearText(), 1);
+        due("keep once more", desk.keep(), 2);
+        due("two changes are recorded", desk.total(7), 2);
+        due("undo", desk.undo(), 1);
+        dueMatrix("undo of the change", desk, "1,2/3,4");
+        due("undo is not recorded", desk.undo(), 0);
+        dueMatrix("undo of the first change", desk, ZEROS);
+        due("no state is left", desk.undo(), NONE);
+    }
+
     private static long readFive(PermanentDesk desk) {
         desk.type('5');
         return desk.read();
@@ -120,6 +136,15 @@ final class HistoryTerms extends SentenceGroup {
         due("the later snapshot alone is left", desk.restore(), 5);
         due("and stays", desk.restore(), 5);
         due("another object has none", new PermanentDesk().restore(), NONE);
+        for (NamedCall call : NamedCall.all()) {
+            if (!call.method().equals("keep")) {
+                PermanentDesk kept = Desks.of("1,2/3,4");
+                kept.keep();
+                call.on(kept);
+                due("restore() behind " + call.name(), kept.restore(), 2);
+                dueMatrix("restore() behind " + call.name(), kept, "1,2/3,4");
+            }
+        }
     }
 
     @Says(at = "HISTORY", words = "The state is the matrix.")

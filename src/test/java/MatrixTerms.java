@@ -93,7 +93,8 @@ final class MatrixTerms extends SentenceGroup {
         for (int number = -12; number < below; number++) {
             PermanentDesk desk = new PermanentDesk();
             desk.clear(rows);
-            due("add(" + number + ") with " + rows + " rows", desk.add(number), isDiagonal(number, rows) ? rows : UNKNOWN);
+            int want = isDiagonal(number, rows) ? rows : UNKNOWN;
+            due("add(" + number + ") with " + rows + " rows", desk.add(number), want);
         }
     }
 
@@ -104,8 +105,9 @@ final class MatrixTerms extends SentenceGroup {
         return new String(sorted).equals("0123456".substring(0, rows));
     }
 
-    @Says(at = "MATRICES", words = "It is told by its columns, row by row, as a number with n digits (as many as there are"
-        + " rows; zeros ahead belong to it): the column of the row 0 is the first digit.")
+    @Says(at = "MATRICES",
+        words = "It is told by its columns, row by row, as a number with n digits (as many as there are rows;"
+            + " zeros ahead belong to it): the column of the row 0 is the first digit.")
     void aDiagonalIsToldByTheColumnsOfItsRows() {
         dueMatrix("add(120)", Desks.ofDiagonal(3, 120), "0,1,0/0,0,1/1,0,0");
         dueMatrix("add(12)", Desks.ofDiagonal(3, 12), "1,0,0/0,1,0/0,0,1");
@@ -162,7 +164,8 @@ final class MatrixTerms extends SentenceGroup {
         }
     }
 
-    @Says(at = "MATRICES", words = "The permanent is the sum, over all diagonals, of the products of their entries.")
+    @Says(at = "MATRICES",
+        words = "The permanent is the sum, over all diagonals, of the products of their entries.")
     void thePermanentIsTheSumOfTheProducts() {
         due("one row", Desks.of("-20").permanent(), -20);
         due("one zero", Desks.of("0").permanent(), 0);
@@ -176,8 +179,9 @@ final class MatrixTerms extends SentenceGroup {
         due("the least", Desks.ofAll(7, -20).permanent(), -5040L * 1280000000L);
     }
 
-    @Says(at = "MATRICES", words = "The determinant is the same sum with the sign of each product changed if the diagonal"
-        + " has an odd number of pairs of rows of which the upper one has the greater column.")
+    @Says(at = "MATRICES",
+        words = "The determinant is the same sum with the sign of each product changed if the diagonal has an odd"
+            + " number of pairs of rows of which the upper one has the greater column.")
     void theDeterminantHasTheSignsOfTheDiagonals() {
         due("one row", Desks.of("-20").determinant(), -20);
         due("two rows", Desks.of("1,2/3,4").determinant(), -2);
@@ -207,7 +211,8 @@ final class MatrixTerms extends SentenceGroup {
         return count;
     }
 
-    @Says(at = "MATRICES", words = "Sets of rows and of columns are told as bits: the bit k stands for the row or the column k.")
+    @Says(at = "MATRICES",
+        words = "Sets of rows and of columns are told as bits: the bit k stands for the row or the column k.")
     void theBitKStandsForTheLineK() {
         for (int row = 0; row < 7; row++) {
             for (int column = 0; column < 7; column++) {
@@ -223,8 +228,9 @@ final class MatrixTerms extends SentenceGroup {
         }
     }
 
-    @Says(at = "MATRICES", words = "The permanent of a set of rows and a set of columns with as many members is that of the"
-        + " matrix that consists of their entries; that of two empty sets is 1.")
+    @Says(at = "MATRICES",
+        words = "The permanent of a set of rows and a set of columns with as many members is that of the matrix"
+            + " that consists of their entries; that of two empty sets is 1.")
     void thePermanentOfSetsIsThatOfTheirEntries() {
         PermanentDesk desk = Desks.of(ONE_TO_NINE);
         due("permanentOf(5, 6)", desk.permanentOf(5, 6), 2 * 9 + 3 * 8);
@@ -251,8 +257,9 @@ final class MatrixTerms extends SentenceGroup {
         dueNodes(Desks.rowsOf(6, 7, 0) + "/" + Desks.rowOf(7, 1), 1, 1);
     }
 
-    @Says(at = "EXPANSIONS", words = "A node is a row (0 to n) together with the columns that are left; a node of the row n"
-        + " has no columns, and is a leaf.")
+    @Says(at = "EXPANSIONS",
+        words = "A node is a row (0 to n) together with the columns that are left; a node of the row n has no"
+            + " columns, and is a leaf.")
     void aLeafIsANodeOfTheRowN() {
         dueNodes("5", 2, 2);
         dueNodes("1,0,0/0,1,0/0,0,1", 4, 4);
@@ -268,8 +275,9 @@ final class MatrixTerms extends SentenceGroup {
         }
     }
 
-    @Says(at = "EXPANSIONS", words = "From a node of a row r below n it goes on, for each column that is left and whose entry"
-        + " in the row r is not 0, to a node of the row r + 1 without this column.")
+    @Says(at = "EXPANSIONS",
+        words = "From a node of a row r below n it goes on, for each column that is left and whose entry in the"
+            + " row r is not 0, to a node of the row r + 1 without this column.")
     void anExpansionGoesOnByEntriesThatAreNot0() {
         dueNodes("-1,-1/-1,-1", 5, 4);
         dueNodes("1,-1/0,1", 4, 4);
@@ -279,8 +287,9 @@ final class MatrixTerms extends SentenceGroup {
         dueNodes("1,1,0/1,1,0/0,0,0", 5, 4);
     }
 
-    @Says(at = "EXPANSIONS", words = "In the plain expansion a node counts each time that it is reached (the first one once);"
-        + " with a memory it counts once.")
+    @Says(at = "EXPANSIONS",
+        words = "In the plain expansion a node counts each time that it is reached (the first one once); with a"
+            + " memory it counts once.")
     void aNodeCountsEachTimeButWithAMemoryOnce() {
         dueNodes("1,1/1,1", 1 + 2 + 2, 1 + 2 + 1);
         dueNodes("1,1,-1/1,1,1/1,1,1", 1 + 3 + 6 + 6, 1 + 3 + 3 + 1);

@@ -1,7 +1,10 @@
 /** Long runs of calls, the same ones on a PermanentDesk and on a SlowDesk, whose answers have to be the same. */
 public final class ModelRunsTests {
-    private static final int RUNS = 1000;
+    private static final int RUNS = 1500;
     private static final int CALLS = 512;
+    private static final int CALLS_AT_THE_END = 55;
+    /** What is begun then, a filling at most, ends ahead of the calls at the end. */
+    private static final int LAST_BEGIN = CALLS - CALLS_AT_THE_END - 60;
     private static final int CALLS_A_FILL = 170;
 
     private final Checks checks;
@@ -97,7 +100,7 @@ public final class ModelRunsTests {
             case 3: text.append(odd.charAt(below(odd.length()))); break;
             default: break;
         }
-        for (int i = 0; i < text.length() && calls < CALLS - 2; i++) {
+        for (int i = 0; i < text.length() && calls < CALLS - CALLS_AT_THE_END; i++) {
             type(text.charAt(i));
         }
         read();
@@ -203,30 +206,39 @@ public final class ModelRunsTests {
         }
     }
 
+    /** Some of the matrix: all of it would be too many calls for one object. */
+    private void samePlaces() {
+        int r = below(size), c = below(size);
+        same("total(0)", desk.total(0), slow.total(0));
+        same("entry(" + r + ", " + c + ")", desk.entry(r, c), slow.entry(r, c));
+        same("lineSum(" + r + ", false)", desk.lineSum(r, false), slow.lineSum(r, false));
+        same("lineSum(" + c + ", true)", desk.lineSum(c, true), slow.lineSum(c, true));
+    }
+
     private void sameMatrix() {
-        for (int r = 0; r < 7; r++) {
-            for (int c = 0; c < 7; c++) {
-                if (desk.entry(r, c) != slow.entry(r, c)) {
-                    same("entry(" + r + ", " + c + ")", desk.entry(r, c), slow.entry(r, c));
-                }
+        for (int r = 0; r < size; r++) {
+            for (int c = 0; c < size; c++) {
+                same("entry(" + r + ", " + c + ")", desk.entry(r, c), slow.entry(r, c));
             }
         }
     }
 
     private void go() {
         int nextFill = 0;
-        while (calls < CALLS) {
+        while (calls < LAST_BEGIN) {
             if (calls >= nextFill) {
                 fill();
                 nextFill = calls + CALLS_A_FILL;
             }
             if (below(4) == 0) {
                 oneChange(run % 4 == 1 && below(2) == 0 ? 8 : below(15));
-                sameMatrix();
+                samePlaces();
             } else {
                 oneQuestion(below(20));
             }
         }
+        sameMatrix();
+        checks.holds("run " + run + " has no more calls than an object may have", calls <= CALLS);
     }
 
     public static void main(String[] arguments) {

@@ -266,7 +266,8 @@ final class PermanentPromises extends SentenceGroup {
 
     // ---- minor
 
-    @Says(at = "Promise 20", words = {"Returns the permanent of the matrix without a row and a column.",
+    @Says(at = "Promise 20", words = {
+        "Returns the permanent of the matrix without a row and a column.",
         "Returns the permanent"})
     void minorIsThePermanentOfWhatIsLeft() {
         PermanentDesk desk = Desks.of(ONE_TO_NINE);
@@ -298,7 +299,9 @@ final class PermanentPromises extends SentenceGroup {
 
     // ---- permanentOf
 
-    @Says(at = "Promise 21", words = {"Returns the permanent of sets of rows and columns.", "Returns the permanent;"})
+    @Says(at = "Promise 21", words = {
+        "Returns the permanent of sets of rows and columns.",
+        "Returns the permanent;"})
     void permanentOfIsThePermanentOfTheSets() {
         PermanentDesk desk = Desks.of(ONE_TO_NINE);
         due("permanentOf(0, 0)", desk.permanentOf(0, 0), 1);
@@ -307,15 +310,26 @@ final class PermanentPromises extends SentenceGroup {
         due("permanentOf(3, 6)", desk.permanentOf(3, 6), 2 * 6 + 3 * 5);
         due("permanentOf(5, 3)", desk.permanentOf(5, 3), 1 * 8 + 2 * 7);
         due("permanentOf(7, 7)", desk.permanentOf(7, 7), 450);
-        for (int rows = 0; rows < 128; rows += 3) {
-            for (int columns = 0; columns < 128; columns += 5) {
-                int r = rows, c = columns;
-                dueAsByDefinition(MATRICES, d -> d.permanentOf(r, c), slow -> slow.permanentOf(r, c));
+        for (String matrix : MATRICES) {
+            dueAllPairsOfSets(matrix, Desks.slowOf(matrix));
+        }
+    }
+
+    private void dueAllPairsOfSets(String matrix, SlowDesk slow) {
+        for (int rows = 0; rows < 1 << slow.total(0); rows++) {
+            PermanentDesk desk = Desks.of(matrix);
+            for (int columns = 0; columns < 1 << slow.total(0); columns++) {
+                if (Integer.bitCount(rows) == Integer.bitCount(columns)) {
+                    due("permanentOf(" + rows + ", " + columns + ") of " + matrix, desk.permanentOf(rows, columns),
+                        slow.permanentOf(rows, columns));
+                }
             }
         }
     }
 
-    @Says(at = "Promise 21", words = {"`rows`: a set of rows", "`columns`: a set of columns",
+    @Says(at = "Promise 21", words = {
+        "`rows`: a set of rows",
+        "`columns`: a set of columns",
         "LONG_UNKNOWN if a set has a member that there is not;"})
     void permanentOfTakesMembersThatThereAre() {
         for (int rows = 1; rows <= 7; rows++) {
@@ -355,7 +369,9 @@ final class PermanentPromises extends SentenceGroup {
 
     // ---- sumOf
 
-    @Says(at = "Promise 22", words = {"Returns the sum of all permanents of k rows and k columns.", "Returns the sum;"})
+    @Says(at = "Promise 22", words = {
+        "Returns the sum of all permanents of k rows and k columns.",
+        "Returns the sum;"})
     void sumOfIsTheSumOfPermanents() {
         PermanentDesk desk = Desks.of(ONE_TO_NINE);
         due("sumOf(0)", desk.sumOf(0), 1);

@@ -32,7 +32,8 @@ final class ScalingPromises extends SentenceGroup {
 
     // ---- scaledBits
 
-    @Says(at = "Promise 30", words = {"Returns an entry behind some sweeps.",
+    @Says(at = "Promise 30", words = {
+        "Returns an entry behind some sweeps.",
         "Returns the bits of the entry (as Double.doubleToLongBits tells them);"})
     void scaledBitsTellsAnEntry() {
         PermanentDesk desk = Desks.of("1,2/3,4");
@@ -92,8 +93,10 @@ final class ScalingPromises extends SentenceGroup {
 
     // ---- gapBits
 
-    @Says(at = "Promise 31", words = {"Returns how far row sums are from 1 behind some sweeps: the greatest of the differences"
-        + " of the row sums (added up as told) and 1.0, without sign.", "Returns the bits of the difference;"})
+    @Says(at = "Promise 31", words = {
+        "Returns how far row sums are from 1 behind some sweeps: the greatest of the differences of the row"
+            + " sums (added up as told) and 1.0, without sign.",
+        "Returns the bits of the difference;"})
     void gapBitsTellsTheGreatestDifference() {
         PermanentDesk desk = Desks.of("1,2/3,4");
         dueBits("no sweep", desk.gapBits(0), 6.0);
@@ -195,14 +198,16 @@ final class ScalingPromises extends SentenceGroup {
 
     // ---- part and parts
 
-    private static final String[] WHOLE = {"0", "-5", "0,0/0,0", "1,2/3,4", "1,1/2,2", "1,2/1,2", "-1,2/2,-1", "2,-1/-1,2",
-        "-1,0/0,-1", "-1,1/1,-1", "1,0/0,2", ZEROS};
+    private static final String[] WHOLE = {"0", "-5", "0,0/0,0", "1,2/3,4", "1,1/2,2", "1,2/1,2", "-1,2/2,-1",
+        "2,-1/-1,2", "-1,0/0,-1", "-1,1/1,-1", "1,0/0,2", ZEROS};
 
     private static PermanentDesk apart() {
         return Desks.of("2,1,1/1,1,2/1,2,1");
     }
 
-    @Says(at = "Promise 33", words = {"Returns a part.", "Returns the weight or the diagonal;",
+    @Says(at = "Promise 33", words = {
+        "Returns a part.",
+        "Returns the weight or the diagonal;",
         "`isWeight`: whether its weight is returned, otherwise the diagonal"})
     void partTellsTheWeightOrTheDiagonal() {
         PermanentDesk desk = Desks.of("3,0,2/2,3,0/0,2,3");

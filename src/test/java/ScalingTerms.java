@@ -58,8 +58,8 @@ final class ScalingTerms extends SentenceGroup {
         dueScaled("no whole diagonal", Desks.of("1,1,1/1,0,0/1,0,0"));
     }
 
-    @Says(at = "SCALING", words = "It begins with the entries as doubles, and n factors of rows and n factors of columns,"
-        + " all 1.0.")
+    @Says(at = "SCALING",
+        words = "It begins with the entries as doubles, and n factors of rows and n factors of columns, all 1.0.")
     void withoutASweepTheEntriesAreAsTheyWere() {
         for (int entry = 1; entry <= 20; entry++) {
             PermanentDesk desk = Desks.of(Desks.textOfAll(2, entry));
@@ -75,9 +75,10 @@ final class ScalingTerms extends SentenceGroup {
         dueBits("the entries begin anew", again.scaledBits(1, 1, 0), 4.0);
     }
 
-    @Says(at = "SCALING", words = "A sweep does this: for each row, from 0 on: its sum is added up from 0.0 by its columns,"
-        + " from 0 on; each entry of it is divided by the sum, by its columns; the factor of the row is multiplied by the"
-        + " sum.")
+    @Says(at = "SCALING",
+        words = "A sweep does this: for each row, from 0 on: its sum is added up from 0.0 by its columns, from 0"
+            + " on; each entry of it is divided by the sum, by its columns; the factor of the row is multiplied"
+            + " by the sum.")
     void aSweepDividesRowsByTheirSums() {
         PermanentDesk desk = Desks.of("1,1/0,4");
         double first = 1.0 / 2.0;
@@ -121,9 +122,10 @@ final class ScalingTerms extends SentenceGroup {
         }
     }
 
-    @Says(at = "SCALING", words = "The bound is: b is 1.0 at first; for k from 1 to n b is multiplied by (double) k and"
-        + " divided by (double) n; then b is multiplied by the factors of the rows, from 0 on, and then by those of the"
-        + " columns, from 0 on.")
+    @Says(at = "SCALING",
+        words = "The bound is: b is 1.0 at first; for k from 1 to n b is multiplied by (double) k and divided by"
+            + " (double) n; then b is multiplied by the factors of the rows, from 0 on, and then by those of the"
+            + " columns, from 0 on.")
     void theBoundIsMadeInThisOrder() {
         for (int rows = 1; rows <= 7; rows++) {
             double bound = 1.0;
@@ -220,8 +222,9 @@ final class ScalingTerms extends SentenceGroup {
         due("the weights of 7 rows of 20", sum, 140);
     }
 
-    @Says(at = "TAKING APART", words = "the first whole diagonal (by its number) of what is left is a part, its weight is its"
-        + " least entry, and the weight is subtracted from each of its entries.")
+    @Says(at = "TAKING APART",
+        words = "the first whole diagonal (by its number) of what is left is a part, its weight is its least"
+            + " entry, and the weight is subtracted from each of its entries.")
     void thePartIsTheFirstWholeDiagonalOfWhatIsLeft() {
         dueParts("1,2/2,1", 1, 1, 10, 2);
         dueParts("0,3/3,0", 10, 3);

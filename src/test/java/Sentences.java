@@ -34,7 +34,8 @@ final class Sentences {
             } else if (line.matches("[A-Z][A-Z ]+")) {
                 part = line;
             } else if (!line.startsWith(HEADS_OF_CALLS)) {
-                parts.computeIfAbsent(part, p -> new StringBuilder()).append(line.replaceAll(SIGNATURE, "")).append(' ');
+                String words = line.replaceAll(SIGNATURE, "") + " ";
+                parts.computeIfAbsent(part, p -> new StringBuilder()).append(words);
             }
         }
         parts.forEach((name, words) -> tested.put(name, new boolean[words.length()]));

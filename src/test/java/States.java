@@ -37,7 +37,7 @@ final class States {
     private static PermanentDesk ofGreatEntries() {
         PermanentDesk desk = Desks.of("20,20/20,-20");
         desk.keep();
-        Desks.typeAll(desk, "10,20,-1,1,2,3,4/" + "5,6,7,8,9,0,1/".repeat(5) + "1,2,3,4,5,6,7");
+        Desks.typeAll(desk, SentenceGroup.FULL_MATRIX);
         return desk;
     }
 
@@ -53,6 +53,7 @@ final class States {
     /** The greatest matrix, with four states, and a full text that ends too early. */
     private static PermanentDesk ofSevenRows() {
         PermanentDesk desk = Desks.ofAll(7, -20);
+        desk.set(6, 6, -19);
         desk.keep();
         Desks.typeAll(desk, "10,10,10,10,10,10,10/".repeat(5));
         return desk;

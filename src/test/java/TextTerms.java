@@ -17,6 +17,16 @@ final class TextTerms extends SentenceGroup {
         due("total(8)", desk.total(8), 100);
         due("read()", desk.read(), 7);
         dueMatrix("a text of 100 characters", desk, FULL_MATRIX);
+        for (NamedCall call : NamedCall.all()) {
+            if (!call.method().equals("type") && !call.method().equals("clearText")) {
+                PermanentDesk typed = Desks.of("1");
+                Desks.typeAll(typed, "1,2/3,4");
+                call.on(typed);
+                due("total(8) behind " + call.name(), typed.total(8), 7);
+                due("read() behind " + call.name(), typed.read(), 2);
+                dueMatrix("read() behind " + call.name(), typed, "1,2/3,4");
+            }
+        }
     }
 
     @Says(at = "TEXTS", words = "It is a list of one or more rows with \"/\" between two.")
@@ -154,7 +164,8 @@ final class TextTerms extends SentenceGroup {
     }
 
     @Says(at = "TEXTS",
-        words = "The fault of the text is the index, from 0, of the first character that is not allowed at its place,")
+        words = "The fault of the text is the index, from 0, of the first character that is not allowed at its"
+            + " place,")
     void theFaultIsTheFirstCharacterThatIsNotAllowed() {
         dueFault("x", 0);
         dueFault("x-0", 0);
@@ -185,8 +196,9 @@ final class TextTerms extends SentenceGroup {
         dueEndsTooEarly("-10,-10,-10,-10,-10,-10,-10/".repeat(4).substring(0, 100));
     }
 
-    @Says(at = "TEXTS", words = "With the first row the number of rows is known: an eighth entry in it is not allowed (the"
-        + " \",\" ahead of it),")
+    @Says(at = "TEXTS",
+        words = "With the first row the number of rows is known: an eighth entry in it is not allowed (the \",\""
+            + " ahead of it),")
     void theFirstRowHasNoEighthEntry() {
         for (int entries = 1; entries <= 6; entries++) {
             dueEndsTooEarly(Desks.rowOf(entries, 1) + ",");
