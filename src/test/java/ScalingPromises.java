@@ -37,11 +37,7 @@ final class ScalingPromises extends SentenceGroup {
         "Returns the bits of the entry (as Double.doubleToLongBits tells them);"})
     void scaledBitsTellsAnEntry() {
         PermanentDesk desk = Desks.of("1,2/3,4");
-        double a = 1.0 / 3.0, b = 2.0 / 3.0, c = 3.0 / 7.0, d = 4.0 / 7.0;
-        dueBits("(0, 0) behind one sweep", desk.scaledBits(0, 0, 1), a / (a + c));
-        dueBits("(0, 1) behind one sweep", desk.scaledBits(0, 1, 1), b / (b + d));
-        dueBits("(1, 0) behind one sweep", desk.scaledBits(1, 0, 1), c / (a + c));
-        dueBits("(1, 1) behind one sweep", desk.scaledBits(1, 1, 1), d / (b + d));
+        dueOneSweepOfTwoRows(desk);
         dueBits("a zero", Desks.of("1,0/1,1").scaledBits(0, 1, 50), 0.0);
         dueBits("a one", Desks.of("20").scaledBits(0, 0, 1), 1.0);
         for (int entry = 1; entry <= 20; entry++) {
@@ -163,20 +159,37 @@ final class ScalingPromises extends SentenceGroup {
         holds("a great bound is near the permanent", bound > 6.45e12 && bound < 6.46e12);
     }
 
-    /** The bound of a cross goes by the normal doubles, the ones below them, and 0. */
+    /** Their bounds go by the least normal doubles, the greatest and the least ones below them, and 0. */
+    private static final String[] TINY_BOUNDS = {
+        "1,1,1,1,1,1,1" + below("111111"), "8,8,3,5,1,5,6" + below("512114"), "8,6,7,5,1,1,9" + below("411234"),
+        "2,1,8,2,4,7,1" + below("143131"), "9,1,3,7,7,6,1" + below("158311"), "2,9,4,2,6,9,9" + below("123213")};
+
+    /** The six rows below the first one, that have an entry in the first column alone. */
+    private static String below(String entries) {
+        return entries.replaceAll("(.)", "/$1,0,0,0,0,0,0");
+    }
+
     @Says(at = "Promise 32", words = "Returns the bits of the bound;")
     void boundBitsTellsTheBitsOfTinyBounds() {
-        PermanentDesk cross = Desks.crossOf(7);
-        SlowDesk slow = Desks.slowOf(cross);
-        boolean isBelowNormal = false;
-        boolean isZero = false;
-        for (int sweeps = 0; sweeps <= 50; sweeps++) {
-            long bits = cross.boundBits(sweeps);
-            due("cross: boundBits(" + sweeps + ")", bits, slow.boundBits(sweeps));
-            isBelowNormal |= bits > 0 && bits < 1L << 52;
-            isZero |= bits == 0;
+        long least = 1L << 52;
+        boolean isNormal = false, isJustBelow = false, isFarBelow = false, isLeast = false, isZero = false;
+        for (String matrix : TINY_BOUNDS) {
+            PermanentDesk desk = Desks.of(matrix);
+            SlowDesk slow = Desks.slowOf(matrix);
+            for (int sweeps = 0; sweeps <= 50; sweeps++) {
+                long bits = desk.boundBits(sweeps);
+                due("boundBits(" + sweeps + ") of " + matrix, bits, slow.boundBits(sweeps));
+                isNormal |= bits >= least && bits < 2 * least;
+                isJustBelow |= bits >= least / 2 && bits < least;
+                isFarBelow |= bits > 1 && bits < least / 2;
+                isLeast |= bits == 1;
+                isZero |= bits == 0;
+            }
         }
-        holds("a bound below the normal doubles has been seen", isBelowNormal);
+        holds("a bound of the least exponent has been seen", isNormal);
+        holds("a bound just below the normal doubles has been seen", isJustBelow);
+        holds("a bound far below the normal doubles has been seen", isFarBelow);
+        holds("the least bound above 0 has been seen", isLeast);
         holds("a bound of 0 has been seen", isZero);
     }
 

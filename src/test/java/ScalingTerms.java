@@ -108,12 +108,7 @@ final class ScalingTerms extends SentenceGroup {
 
     @Says(at = "SCALING", words = "Then the same with columns (their sums are added up by rows).")
     void thenColumnsAreDividedByTheirSums() {
-        PermanentDesk desk = Desks.of("1,2/3,4");
-        double a = 1.0 / 3.0, b = 2.0 / 3.0, c = 3.0 / 7.0, d = 4.0 / 7.0;
-        dueBits("(0, 0) behind one sweep", desk.scaledBits(0, 0, 1), a / (a + c));
-        dueBits("(0, 1) behind one sweep", desk.scaledBits(0, 1, 1), b / (b + d));
-        dueBits("(1, 0) behind one sweep", desk.scaledBits(1, 0, 1), c / (a + c));
-        dueBits("(1, 1) behind one sweep", desk.scaledBits(1, 1, 1), d / (b + d));
+        dueOneSweepOfTwoRows(Desks.of("1,2/3,4"));
         double e = 1.0 / 3.0;
         PermanentDesk three = Desks.of("1,1,1/0,1,0/0,0,7");
         dueBits("a sum of three rows", three.scaledBits(0, 2, 1), e / (e + 0.0 + 1.0));

@@ -125,4 +125,13 @@ abstract class SentenceGroup {
     void dueEndsTooEarly(String text) {
         dueFault(text, text.length());
     }
+
+    /** The matrix is 1,2/3,4. */
+    void dueOneSweepOfTwoRows(PermanentDesk desk) {
+        double a = 1.0 / 3.0, b = 2.0 / 3.0, c = 3.0 / 7.0, d = 4.0 / 7.0;
+        dueBits("(0, 0) behind one sweep", desk.scaledBits(0, 0, 1), a / (a + c));
+        dueBits("(0, 1) behind one sweep", desk.scaledBits(0, 1, 1), b / (b + d));
+        dueBits("(1, 0) behind one sweep", desk.scaledBits(1, 0, 1), c / (a + c));
+        dueBits("(1, 1) behind one sweep", desk.scaledBits(1, 1, 1), d / (b + d));
+    }
 }
