@@ -96,6 +96,13 @@ final class PermanentPromises extends SentenceGroup {
                 due("total(4), cell " + cell, desk.total(4), -6);
             }
         }
+        for (int rows = 1; rows <= 7; rows++) {
+            // What is outside of the matrix is no entry, so it is not the 0 between these.
+            due("all are 3: total(3)", Desks.ofAll(rows, 3).total(3), 3);
+            due("all are 3: total(4)", Desks.ofAll(rows, 3).total(4), 3);
+            due("all are -3: total(3)", Desks.ofAll(rows, -3).total(3), -3);
+            due("all are -3: total(4)", Desks.ofAll(rows, -3).total(4), -3);
+        }
         due("all are greater than 0", Desks.of("5,6/7,8").total(4), 5);
         due("all are less than 0", Desks.of("-5,-6/-7,-8").total(3), -5);
         due("the greatest that there can be", Desks.of("-20,20/0,0").total(3), 20);
